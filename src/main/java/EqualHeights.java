@@ -77,33 +77,21 @@ public final class EqualHeights {
         if (!isColumn(column) || !isBetween(what, 0, 3)) {
             return BAD_VALUE;
         }
-        ColumnFacts facts = now.analysis.facts(column);
-        if (bucket < 0 || bucket >= facts.buckets) {
-            return NO_SUCH;
-        }
-        return facts.tellBucket(bucket, what);
+        return now.analysis.facts(column).tellBucket(bucket, what);
     }
 
     public int common(int column, int common, int what) {
         if (!isColumn(column) || !isBetween(what, 0, 1)) {
             return BAD_VALUE;
         }
-        ColumnFacts facts = now.analysis.facts(column);
-        if (common < 0 || common >= facts.commons) {
-            return NO_SUCH;
-        }
-        return what == 0 ? facts.commonValue[common] : facts.commonRows[common];
+        return now.analysis.facts(column).tellCommon(common, what);
     }
 
     public int pair(int pair, int what) {
         if (!isBetween(what, 0, 2)) {
             return BAD_VALUE;
         }
-        PairFacts facts = now.analysis.pairs;
-        if (pair < 0 || pair >= facts.pairs) {
-            return NO_SUCH;
-        }
-        return facts.tellPair(pair, what);
+        return now.analysis.pairs.tellPair(pair, what);
     }
 
     public int count(int what) {
@@ -657,6 +645,13 @@ public final class EqualHeights {
             }
             highest[bucket] = value;
             bucketRows[bucket]++;
+        }
+
+        int tellCommon(int common, int what) {
+            if (common < 0 || common >= commons) {
+                return NO_SUCH;
+            }
+            return what == 0 ? commonValue[common] : commonRows[common];
         }
 
         int tellBucket(int bucket, int what) {

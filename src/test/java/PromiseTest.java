@@ -776,6 +776,7 @@ public final class PromiseTest {
         x.restore(0);
         due("errors record nothing", x.undo(), -5);
         undoOfAnalyses();
+        undoOfEverything();
     }
 
     private static void undoOfAnalyses() {
@@ -796,6 +797,57 @@ public final class PromiseTest {
         due("the old analysed rows", x.count(1), 3);
         due("what came and went", x.count(2), 3);
         due("the old worst", x.worst(0, 1), 0);
+    }
+
+    private static EqualHeights tableOfTwenty() {
+        EqualHeights x = new EqualHeights();
+        for (int row = 0; row < 20; row++) {
+            x.insert(row * row % 11, 90 - row * row % 7);
+        }
+        x.set(0, 3);
+        x.analyse();
+        x.insert(4, 88);
+        return x;
+    }
+
+    /** All that undo and restore bring back, as far as the calls tell it. */
+    private static String everything(EqualHeights x) {
+        StringBuilder all = new StringBuilder();
+        for (int what = 0; what < 13; what++) {
+            all.append(x.count(what)).append(' ');
+        }
+        for (int row = 0; row < x.count(0); row++) {
+            all.append(x.row(row, 0)).append(',').append(x.row(row, 1)).append(' ');
+        }
+        for (int i = 0; i < 10; i++) {
+            for (int what = 0; what < 4; what++) {
+                all.append(x.bucket(0, i, what)).append(',').append(x.bucket(1, i, what)).append(' ');
+                all.append(x.common(0, i, what)).append(',').append(x.common(1, i, what)).append(' ');
+                all.append(x.pair(i, what)).append(' ');
+            }
+        }
+        for (int column = 0; column < 2; column++) {
+            all.append(x.worst(column, 0)).append(' ').append(x.worst(column, 1)).append(' ');
+        }
+        return all.toString();
+    }
+
+    private static void undoOfEverything() {
+        String before = everything(tableOfTwenty());
+        EqualHeights x = tableOfTwenty();
+        write(x, "b10;c0;p0;-0;-3;-7;a;+99,98*5;-0");
+        due("all orders", x.carryOut(), 9);
+        CHECK.holds("all is different", !everything(x).equals(before));
+        due("undo", x.undo(), 5);
+        CHECK.holds("all is as it was: " + everything(x), everything(x).equals(before));
+        x.save(1);
+        write(x, "c0;p1;-5;-1;a;-0");
+        x.carryOut();
+        String changed = everything(x);
+        due("restore", x.restore(1), 21);
+        CHECK.holds("all is as it was saved: " + everything(x), everything(x).equals(before));
+        x.undo();
+        CHECK.holds("all is as it was changed: " + everything(x), everything(x).equals(changed));
     }
 
     private static void undoKeepsPadAndSlots() {
