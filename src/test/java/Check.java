@@ -24,6 +24,10 @@ final class Check {
         return wrong;
     }
 
+    int calls() {
+        return calls;
+    }
+
     /** Ends the machine with 1 if anything was wrong. */
     void end() {
         System.out.println(name + ": " + calls + " answers, " + wrong + " wrong");

@@ -11,18 +11,17 @@ import java.util.TreeSet;
 import java.util.regex.Matcher;
 import java.util.regex.Pattern;
 
-/**
- * Those rules of LANGUAGE.md that can be looked after from outside: the face, and words that may not stand. Some of
- * these words the rules allow; they are kept out as long as the program does not need them.
- */
+/** Those rules of LANGUAGE.md that can be looked after from outside: the face, and words that may not stand. */
 public final class LanguageTest {
     private static final Check CHECK = new Check("LanguageTest");
     private static final Class<?> FACE = EqualHeights.class;
 
-    private static final String[] FORBIDDEN = {"\\bimport\\b", "\\bpackage\\b", "->", "::", "\\binstanceof\\b", "\\btry\\b",
-        "\\bcatch\\b", "\\bfinally\\b", "\\bsynchronized\\b", "\\bassert\\b", "\\bFloat\\b", "\\bDouble\\b",
-        "\\bObject\\b", "\\bSystem\\b", "\\bThread\\b", "\\bthrow\\b", "\\bstatic \\{", "\\w+Exact\\b", "MAX_VALUE",
-        "\\bprotected\\b", "\\bsuper\\b"};
+    private static final String[] FORBIDDEN = {"\\bpackage\\b", "\\bimport (?!java\\.util\\.(ArrayList|List|Arrays|Iterator"
+        + "|NoSuchElementException);)", "->", "::", "\\bfinally\\b", "\\bsynchronized\\b", "\\bassert\\b", "\\bFloat\\b",
+        "\\bDouble\\b", "\\bObject\\b", "\\bThread\\b", "\\bstatic \\{", "\\w+Exact\\b", "MAX_VALUE", "MIN_VALUE",
+        "\\bprotected\\b", "catch \\((Exception|Throwable|NullPointer|ArrayIndex|ClassCast|NegativeArray|ArrayStore)"};
+    private static final String[] LIBRARY = {"Bits\\.\\w+", "(Math|Integer|Long)\\.\\w+", "System\\.arraycopy", "List\\.of",
+        "Arrays\\.(copyOf|copyOfRange|fill)"};
 
     public static void main(String[] args) throws IOException {
         String source = Files.readString(Path.of("src/main/java/EqualHeights.java"), StandardCharsets.US_ASCII);
@@ -51,9 +50,11 @@ public final class LanguageTest {
         }
         Matcher library = Pattern.compile("\\b([A-Z]\\w*[a-z]\\w*)\\.(\\w+)").matcher(code);
         while (library.find()) {
-            boolean own = library.group(1).equals("Bits");
-            boolean math = library.group(1).equals("Math") && library.group(2).matches("min|max|abs");
-            CHECK.holds(library.group() + " may be used", own || math);
+            boolean allowed = false;
+            for (String one : LIBRARY) {
+                allowed = allowed || library.group().matches(one);
+            }
+            CHECK.holds(library.group() + " may be used", allowed);
         }
     }
 

@@ -1,8 +1,5 @@
 /** What each promise asks, written out by hand: ordinary inputs, the edges that the document names, wrong inputs. */
-public final class PromiseTest {
-    private static final int MIN = Integer.MIN_VALUE;
-    private static final int MAX = Integer.MAX_VALUE;
-
+public final class PromiseTest extends Tables {
     private static final Check CHECK = new Check("PromiseTest");
 
     private static void due(String call, long got, long want) {
@@ -38,40 +35,8 @@ public final class PromiseTest {
         undoKeepsPadAndSlots();
         save();
         restore();
+        restoreOfEverything();
         CHECK.end();
-    }
-
-    /** A table whose rows have these values in the column 0, and their own number in the column 1. */
-    private static EqualHeights tableOf(int... values) {
-        EqualHeights x = new EqualHeights();
-        for (int i = 0; i < values.length; i++) {
-            x.insert(values[i], i);
-        }
-        return x;
-    }
-
-    private static EqualHeights tableOfPairs(int[]... pairs) {
-        EqualHeights x = new EqualHeights();
-        for (int[] pair : pairs) {
-            x.insert(pair[0], pair[1]);
-        }
-        return x;
-    }
-
-    private static int[] pairOf(int a, int b) {
-        return new int[] {a, b};
-    }
-
-    private static void write(EqualHeights x, String text) {
-        for (long characters : Check.numbersOf(text)) {
-            x.put(characters);
-        }
-    }
-
-    private static int faultOf(String text) {
-        EqualHeights x = new EqualHeights();
-        write(x, text);
-        return x.fault();
     }
 
     private static void newObject() {
@@ -504,12 +469,6 @@ public final class PromiseTest {
         everyShare();
     }
 
-    private static EqualHeights tableAnalysed(int... values) {
-        EqualHeights x = tableOf(values);
-        x.analyse();
-        return x;
-    }
-
     private static void everyShare() {
         for (int rows = 1; rows <= 60; rows++) {
             for (int part = 1; part < rows; part++) {
@@ -799,55 +758,28 @@ public final class PromiseTest {
         due("the old worst", x.worst(0, 1), 0);
     }
 
-    private static EqualHeights tableOfTwenty() {
-        EqualHeights x = new EqualHeights();
-        for (int row = 0; row < 20; row++) {
-            x.insert(row * row % 11, 90 - row * row % 7);
-        }
-        x.set(0, 3);
-        x.analyse();
-        x.insert(4, 88);
-        return x;
-    }
-
-    /** All that undo and restore bring back, as far as the calls tell it. */
-    private static String everything(EqualHeights x) {
-        StringBuilder all = new StringBuilder();
-        for (int what = 0; what < 13; what++) {
-            all.append(x.count(what)).append(' ');
-        }
-        for (int row = 0; row < x.count(0); row++) {
-            all.append(x.row(row, 0)).append(',').append(x.row(row, 1)).append(' ');
-        }
-        for (int i = 0; i < 10; i++) {
-            for (int what = 0; what < 4; what++) {
-                all.append(x.bucket(0, i, what)).append(',').append(x.bucket(1, i, what)).append(' ');
-                all.append(x.common(0, i, what)).append(',').append(x.common(1, i, what)).append(' ');
-                all.append(x.pair(i, what)).append(' ');
-            }
-        }
-        for (int column = 0; column < 2; column++) {
-            all.append(x.worst(column, 0)).append(' ').append(x.worst(column, 1)).append(' ');
-        }
-        return all.toString();
-    }
-
     private static void undoOfEverything() {
         String before = everything(tableOfTwenty());
         EqualHeights x = tableOfTwenty();
-        write(x, "b10;c0;p0;-0;-3;-7;a;+99,98*5;-0");
-        due("all orders", x.carryOut(), 9);
+        due("all orders", carriedOut(x, "b10;c0;p0;-0;-3;-7;a;+99,98*5;-0"), 9);
         CHECK.holds("all is different", !everything(x).equals(before));
         due("undo", x.undo(), 5);
-        CHECK.holds("all is as it was: " + everything(x), everything(x).equals(before));
+        String undone = everything(x);
+        CHECK.holds("all is as it was: " + undone, undone.equals(before));
+    }
+
+    private static void restoreOfEverything() {
+        String before = everything(tableOfTwenty());
+        EqualHeights x = tableOfTwenty();
         x.save(1);
-        write(x, "c0;p1;-5;-1;a;-0");
-        x.carryOut();
+        carriedOut(x, "c0;p1;-5;-1;a;-0");
         String changed = everything(x);
         due("restore", x.restore(1), 21);
-        CHECK.holds("all is as it was saved: " + everything(x), everything(x).equals(before));
+        String restored = everything(x);
+        CHECK.holds("all is as it was saved: " + restored, restored.equals(before));
         x.undo();
-        CHECK.holds("all is as it was changed: " + everything(x), everything(x).equals(changed));
+        String undone = everything(x);
+        CHECK.holds("all is as it was changed: " + undone, undone.equals(changed));
     }
 
     private static void undoKeepsPadAndSlots() {
